@@ -6,17 +6,19 @@ import java.util.Map;
 
 /** Long runs of calls, drawn by a fixed rule, on the class and on PlainHouse: all answers are the same. */
 public final class RunsTest {
-    private static final int RUNS = 600;
+    private static final int RUNS = 200;
     private static final int CALLS = 480;
     private static final int CALLS_BETWEEN_DIGESTS = 40;
-    private static final int FOUNDING_CALLS = 40;
+    private static final int FOUNDING_CALLS = 50;
+    private static final int MOSTLY_VOTES_UNTIL = 130;
+    private static final int MOSTLY_WRITES_UNTIL = 220;
     private static final int[] ODD = {-1, Integer.MIN_VALUE, Integer.MAX_VALUE, 100, 1 << 24, -40};
     private static final Map<String, Method> METHODS = new HashMap<>();
     private static final Map<String, Method> PLAIN_METHODS = new HashMap<>();
 
-    private static final String[] FOUNDING = {"concept", "document", "term", "term"};
-    private static final String[] CHANGES = {"concept", "term", "document", "split", "join", "prefer", "prefer",
-        "ban", "ban", "ban", "allow", "allow", "pass", "cut", "cut"};
+    private static final String[] FOUNDING = {"concept", "document", "term", "term", "term", "term"};
+    private static final String[] CHANGES = {"concept", "term", "document", "split", "split", "join", "prefer",
+        "prefer", "prefer", "ban", "ban", "ban", "allow", "allow", "pass", "cut", "cut"};
     private static final String[] QUESTIONS = {"ofTerm", "ofConcept", "use", "ofText", "agreement", "many",
         "meanConsistency", "reopenedBy", "reopenedIn", "changedBy", "formFor"};
 
@@ -68,19 +70,35 @@ public final class RunsTest {
 
     private void go(int run) {
         for (int i = 0; i < CALLS; i++) {
-            String name = i < FOUNDING_CALLS ? oneOf(FOUNDING) : anyCall();
+            String name = callAt(i);
             Object[] arguments = argumentsOf(name);
             String got = answer(METHODS.get(name), house, arguments);
             String due = answer(PLAIN_METHODS.get(name), plain, arguments);
             Due.is("run " + run + ", call " + i + ": " + name + Arrays.toString(arguments) + " with " + got
                 + " instead of " + due + ": same", got.equals(due) ? 1 : 0, 1);
             if (i % CALLS_BETWEEN_DIGESTS == CALLS_BETWEEN_DIGESTS - 1) {
-                Due.is("run " + run + ", digest behind call " + i, house.digest(), plain.digest());
+                compareAll("run " + run + ", behind call " + i + ": ");
             }
             if (!got.equals(due)) {
                 return;
             }
         }
+    }
+
+    /** The digest tells all that it holds; what it leaves out is asked beside it. */
+    private void compareAll(String where) {
+        Due.is(where + "digest", house.digest(), plain.digest());
+        Due.isExactly(where + "meanConsistency", house.meanConsistency(), plain.meanConsistency());
+        int concepts = house.many(0);
+        for (int one = 0; one < concepts; one++) {
+            int other = (one + 1 + next(11)) % concepts;
+            if (one != other) {
+                Due.is(where + "changedBy " + one + ", " + other, house.changedBy(one, other),
+                    plain.changedBy(one, other));
+            }
+        }
+        int days = 1 + next(40);
+        Due.is(where + "reopenedIn " + days, house.reopenedIn(days), plain.reopenedIn(days));
     }
 
     private static String answer(Method method, Object target, Object[] arguments) {
@@ -97,44 +115,52 @@ public final class RunsTest {
         return names[next(names.length)];
     }
 
-    private String anyCall() {
+    /** First come TERMS, then votes, then TEXTS, so that the rest of the run has much to change. */
+    private String callAt(int step) {
+        if (step < FOUNDING_CALLS) {
+            return oneOf(FOUNDING);
+        }
+        boolean isFree = next(4) == 0 || step >= MOSTLY_WRITES_UNTIL;
+        if (!isFree) {
+            return step < MOSTLY_VOTES_UNTIL ? "vote" : "write";
+        }
         int kind = next(100);
-        if (kind < 22) {
+        if (kind < 5) {
             return "vote";
         }
-        if (kind < 48) {
+        if (kind < 25) {
             return "write";
         }
-        if (kind < 58) {
+        if (kind < 32) {
             return "approve";
         }
-        return oneOf(kind < 76 ? CHANGES : QUESTIONS);
+        return oneOf(kind < 60 ? CHANGES : QUESTIONS);
     }
 
     private Object[] argumentsOf(String name) {
         switch (name) {
             case "concept": return new Object[] {about(domains)};
             case "term": return new Object[] {about(house.many(0)), about(languages), about(stems)};
-            case "vote": return new Object[] {someTerm(), about(5), next(10) < 8};
-            case "ban": return new Object[] {someTerm(), next(3) == 0 ? 0 : about(31)};
-            case "prefer":
-            case "allow":
+            case "vote": return new Object[] {termInState(0), about(5), next(10) < 8};
+            case "ban": return new Object[] {termInState(1 + next(2)), next(3) == 0 ? 0 : about(next(2) == 0 ? 31 : 5)};
+            case "prefer": return new Object[] {termInState(1)};
+            case "allow": return new Object[] {termInState(3)};
             case "reopenedBy": return new Object[] {someTerm()};
             case "ofTerm": return new Object[] {someTerm(), about(8)};
             case "ofConcept": return new Object[] {about(house.many(0)), about(7)};
             case "split": return splitArguments();
             case "join":
             case "changedBy": return new Object[] {about(house.many(0)), about(house.many(0))};
-            case "write": return new Object[] {someDocument(), about(languages), somePlace(), about(4 * stems + 4)};
+            case "write": return writeArguments();
             case "cut":
             case "approve": return new Object[] {someDocument(), about(languages)};
-            case "use": return new Object[] {someDocument(), about(languages), about(8)};
+            case "use": return useArguments();
             case "ofText": return new Object[] {someDocument(), about(languages), about(7)};
             case "agreement": return new Object[] {someDocument()};
-            case "pass": return new Object[] {next(4) == 0 ? about(41) : 1 + next(6)};
+            case "pass": return new Object[] {next(5) == 0 ? about(41) : 1 + next(4)};
             case "many": return new Object[] {about(13)};
             case "reopenedIn": return new Object[] {about(41)};
-            case "formFor": return new Object[] {someDocument(), about(languages), somePlace(), someTerm()};
+            case "formFor": return formForArguments();
             default: return new Object[0];
         }
     }
@@ -143,18 +169,62 @@ public final class RunsTest {
         return about(house.many(2));
     }
 
-    /** Mostly one of the first three, so that their TEXTS grow. */
-    private int someDocument() {
-        return about(next(6) == 0 ? house.many(7) : 3);
+    /** Mostly one in that state, if a few tries find it. */
+    private int termInState(int state) {
+        int term = someTerm();
+        for (int i = 0; i < 8 && next(oddness) != 0; i++) {
+            if (term >= 0 && term < house.many(2) && house.ofTerm(term, 3) == state) {
+                return term;
+            }
+            term = someTerm();
+        }
+        return term;
     }
 
-    private int somePlace() {
-        return about(next(2) == 0 ? 13 : 4);
+    /** Mostly one of the first two, so that their TEXTS grow. */
+    private int someDocument() {
+        return about(next(3) == 0 ? house.many(7) : 2);
+    }
+
+    private int lengthOf(int document, int language) {
+        boolean isText = document >= 0 && document < house.many(7) && language >= 0 && language < 3;
+        return isText ? house.ofText(document, language, 0) : 0;
+    }
+
+    private Object[] writeArguments() {
+        int document = someDocument();
+        int language = about(languages);
+        int length = lengthOf(document, language);
+        int place = next(3) == 0 ? about(length + 1) : length;
+        return new Object[] {document, language, place, about(next(4) == 0 ? 80 : 4 * stems)};
+    }
+
+    private Object[] useArguments() {
+        int document = someDocument();
+        int language = about(languages);
+        return new Object[] {document, language, about(lengthOf(document, language))};
+    }
+
+    private Object[] formForArguments() {
+        int document = someDocument();
+        int language = about(languages);
+        return new Object[] {document, language, about(lengthOf(document, language) + 1), someTerm()};
+    }
+
+    /** Mostly one with several TERMS, if a few tries find it. */
+    private int someConceptToSplit() {
+        int concept = about(house.many(0));
+        for (int i = 0; i < 4; i++) {
+            if (concept >= 0 && concept < house.many(0) && house.ofConcept(concept, 1) < 2) {
+                concept = about(house.many(0));
+            }
+        }
+        return concept;
     }
 
     /** Mostly some of the TERMS of that CONCEPT. */
     private Object[] splitArguments() {
-        int concept = about(house.many(0));
+        int concept = someConceptToSplit();
         int set = about(1 << 24);
         if (next(8) != 0) {
             for (int term = 0; term < 24; term++) {
