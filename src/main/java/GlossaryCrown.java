@@ -511,12 +511,22 @@ public final class GlossaryCrown {
             voters[term] |= 1 << voter;
             if (Integer.bitCount(votersFor[term]) >= VOTES_THAT_DECIDE) {
                 states[term] = ADMITTED;
-                known[languages[term]][stems[term]] |= 1 << term;
+                makeKnown(term, languages[term], stems[term]);
             } else if (Integer.bitCount(votersAgainst[term]) >= VOTES_THAT_DECIDE) {
                 votersFor[term] = 0;
                 votersAgainst[term] = 0;
             }
             return states[term];
+        }
+
+        private static boolean isStem(int language, int stem) {
+            return language >= 0 && language < LANGUAGES && stem >= 0 && stem < STEMS;
+        }
+
+        private void makeKnown(int term, int language, int stem) {
+            if (isStem(language, stem)) {
+                known[language][stem] |= 1 << term;
+            }
         }
 
         /** Answers the TERM that was PREFERRED so far, or NONE. */
@@ -625,7 +635,8 @@ public final class GlossaryCrown {
 
         /** The set of TERMS that a FORM CAN BE. */
         int canBe(int language, int form) {
-            return known[language][form / FORMS_OF_A_STEM];
+            int stem = form / FORMS_OF_A_STEM;
+            return isStem(language, stem) ? known[language][stem] : 0;
         }
 
         /** The DOMAIN of a TERM, if all TERMS of the CONCEPT moved were of the CONCEPT kept. */
