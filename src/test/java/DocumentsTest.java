@@ -4,7 +4,7 @@ public final class DocumentsTest {
     private static final Class<?> ARGUMENT = Houses.ARGUMENT;
     private static final Class<?> STATE = Houses.STATE;
     private static final int NONE = Houses.NONE;
-    private static final int[] OUTSIDE = {-1, Integer.MIN_VALUE, Integer.MAX_VALUE};
+    private static final int[] OUTSIDE = Houses.OUTSIDE;
 
     public static void main(String[] args) {
         document();

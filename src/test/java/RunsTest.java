@@ -4,26 +4,33 @@ import java.util.Arrays;
 import java.util.HashMap;
 import java.util.Map;
 
-/** Long runs of calls, drawn by a fixed rule, on the class and on PlainHouse: all answers are the same. */
+/**
+ * Long runs of calls, drawn by a fixed rule, on the class and on PlainHouse: all answers are the same. Each object gets
+ * as many calls as the document promises, and not one more.
+ */
 public final class RunsTest {
-    private static final int RUNS = 200;
-    private static final int CALLS = 480;
-    private static final int CALLS_BETWEEN_DIGESTS = 40;
-    private static final int FOUNDING_CALLS = 50;
-    private static final int MOSTLY_VOTES_UNTIL = 130;
-    private static final int MOSTLY_WRITES_UNTIL = 220;
+    private static final int RUNS = 240;
+    private static final int PROMISED_CALLS = 512;
+    private static final int STEPS_BETWEEN_DIGESTS = 50;
+    /** The digest, meanConsistency, reopenedIn, and a changedBy of each CONCEPT. */
+    private static final int CALLS_TO_COMPARE_ALL = 3 + 12;
+    private static final int FOUNDING_STEPS = 50;
+    private static final int MOSTLY_VOTES_UNTIL = 120;
+    private static final int MOSTLY_WRITES_UNTIL = 190;
     private static final int[] ODD = {-1, Integer.MIN_VALUE, Integer.MAX_VALUE, 100, 1 << 24, -40};
     private static final Map<String, Method> METHODS = new HashMap<>();
     private static final Map<String, Method> PLAIN_METHODS = new HashMap<>();
 
     private static final String[] FOUNDING = {"concept", "document", "term", "term", "term", "term"};
     private static final String[] CHANGES = {"concept", "term", "document", "split", "split", "join", "prefer",
-        "prefer", "prefer", "ban", "ban", "ban", "allow", "allow", "pass", "cut", "cut"};
+        "prefer", "prefer", "ban", "ban", "ban", "allow", "allow", "pass", "pass", "pass", "cut", "cut"};
     private static final String[] QUESTIONS = {"ofTerm", "ofConcept", "use", "ofText", "agreement", "many",
         "meanConsistency", "reopenedBy", "reopenedIn", "changedBy", "formFor"};
 
     private long seed;
     private final GlossaryCrown house = new GlossaryCrown();
+    private int calls = 0;
+    /** What the next call is drawn by, is asked of this one. */
     private final PlainHouse plain = new PlainHouse();
     /** Few STEMS make many FORMS that could be several TERMS. */
     private final int stems;
@@ -31,6 +38,8 @@ public final class RunsTest {
     private final int domains;
     /** One argument of so many is an odd one. */
     private final int oddness;
+    /** One pass of so many is a long one, so that some runs come to the last DAY. */
+    private final int haste;
 
     private RunsTest(int run) {
         seed = run * 7919L + 17;
@@ -38,6 +47,7 @@ public final class RunsTest {
         languages = 1 + next(3);
         domains = 1 + next(4);
         oddness = run % 4 == 0 ? 10 : 60;
+        haste = run % 5 == 0 ? 1 : 5;
     }
 
     public static void main(String[] args) {
@@ -69,16 +79,18 @@ public final class RunsTest {
     }
 
     private void go(int run) {
-        for (int i = 0; i < CALLS; i++) {
-            String name = callAt(i);
+        for (int step = 0; calls < PROMISED_CALLS; step++) {
+            boolean isDue = step % STEPS_BETWEEN_DIGESTS == STEPS_BETWEEN_DIGESTS - 1;
+            if (isDue && calls + CALLS_TO_COMPARE_ALL < PROMISED_CALLS) {
+                compareAll("run " + run + ", ahead of step " + step + ": ");
+            }
+            String name = calls == PROMISED_CALLS - 1 ? "digest" : callAt(step);
             Object[] arguments = argumentsOf(name);
             String got = answer(METHODS.get(name), house, arguments);
             String due = answer(PLAIN_METHODS.get(name), plain, arguments);
-            Due.is("run " + run + ", call " + i + ": " + name + Arrays.toString(arguments) + " with " + got
+            calls++;
+            Due.is("run " + run + ", step " + step + ": " + name + Arrays.toString(arguments) + " with " + got
                 + " instead of " + due + ": same", got.equals(due) ? 1 : 0, 1);
-            if (i % CALLS_BETWEEN_DIGESTS == CALLS_BETWEEN_DIGESTS - 1) {
-                compareAll("run " + run + ", behind call " + i + ": ");
-            }
             if (!got.equals(due)) {
                 return;
             }
@@ -89,16 +101,18 @@ public final class RunsTest {
     private void compareAll(String where) {
         Due.is(where + "digest", house.digest(), plain.digest());
         Due.isExactly(where + "meanConsistency", house.meanConsistency(), plain.meanConsistency());
-        int concepts = house.many(0);
+        int days = 1 + next(40);
+        Due.is(where + "reopenedIn " + days, house.reopenedIn(days), plain.reopenedIn(days));
+        calls += 3;
+        int concepts = plain.many(0);
         for (int one = 0; one < concepts; one++) {
             int other = (one + 1 + next(11)) % concepts;
             if (one != other) {
+                calls++;
                 Due.is(where + "changedBy " + one + ", " + other, house.changedBy(one, other),
                     plain.changedBy(one, other));
             }
         }
-        int days = 1 + next(40);
-        Due.is(where + "reopenedIn " + days, house.reopenedIn(days), plain.reopenedIn(days));
     }
 
     private static String answer(Method method, Object target, Object[] arguments) {
@@ -117,7 +131,7 @@ public final class RunsTest {
 
     /** First come TERMS, then votes, then TEXTS, so that the rest of the run has much to change. */
     private String callAt(int step) {
-        if (step < FOUNDING_CALLS) {
+        if (step < FOUNDING_STEPS) {
             return oneOf(FOUNDING);
         }
         boolean isFree = next(4) == 0 || step >= MOSTLY_WRITES_UNTIL;
@@ -140,24 +154,24 @@ public final class RunsTest {
     private Object[] argumentsOf(String name) {
         switch (name) {
             case "concept": return new Object[] {about(domains)};
-            case "term": return new Object[] {about(house.many(0)), about(languages), about(stems)};
+            case "term": return new Object[] {about(plain.many(0)), about(languages), about(stems)};
             case "vote": return new Object[] {termInState(0), about(5), next(10) < 8};
             case "ban": return new Object[] {termInState(1 + next(2)), next(3) == 0 ? 0 : about(next(2) == 0 ? 31 : 5)};
             case "prefer": return new Object[] {termInState(1)};
             case "allow": return new Object[] {termInState(3)};
             case "reopenedBy": return new Object[] {someTerm()};
             case "ofTerm": return new Object[] {someTerm(), about(8)};
-            case "ofConcept": return new Object[] {about(house.many(0)), about(7)};
+            case "ofConcept": return new Object[] {about(plain.many(0)), about(7)};
             case "split": return splitArguments();
             case "join":
-            case "changedBy": return new Object[] {about(house.many(0)), about(house.many(0))};
+            case "changedBy": return new Object[] {about(plain.many(0)), about(plain.many(0))};
             case "write": return writeArguments();
             case "cut":
             case "approve": return new Object[] {someDocument(), about(languages)};
             case "use": return useArguments();
             case "ofText": return new Object[] {someDocument(), about(languages), about(7)};
             case "agreement": return new Object[] {someDocument()};
-            case "pass": return new Object[] {next(5) == 0 ? about(41) : 1 + next(4)};
+            case "pass": return new Object[] {next(haste) == 0 ? about(41) : 1 + next(4)};
             case "many": return new Object[] {about(13)};
             case "reopenedIn": return new Object[] {about(41)};
             case "formFor": return formForArguments();
@@ -166,14 +180,14 @@ public final class RunsTest {
     }
 
     private int someTerm() {
-        return about(house.many(2));
+        return about(plain.many(2));
     }
 
     /** Mostly one in that state, if a few tries find it. */
     private int termInState(int state) {
         int term = someTerm();
         for (int i = 0; i < 8 && next(oddness) != 0; i++) {
-            if (term >= 0 && term < house.many(2) && house.ofTerm(term, 3) == state) {
+            if (term >= 0 && term < plain.many(2) && plain.ofTerm(term, 3) == state) {
                 return term;
             }
             term = someTerm();
@@ -183,12 +197,12 @@ public final class RunsTest {
 
     /** Mostly one of the first two, so that their TEXTS grow. */
     private int someDocument() {
-        return about(next(3) == 0 ? house.many(7) : 2);
+        return about(next(3) == 0 ? plain.many(7) : 2);
     }
 
     private int lengthOf(int document, int language) {
-        boolean isText = document >= 0 && document < house.many(7) && language >= 0 && language < 3;
-        return isText ? house.ofText(document, language, 0) : 0;
+        boolean isText = document >= 0 && document < plain.many(7) && language >= 0 && language < 3;
+        return isText ? plain.ofText(document, language, 0) : 0;
     }
 
     private Object[] writeArguments() {
@@ -213,10 +227,10 @@ public final class RunsTest {
 
     /** Mostly one with several TERMS, if a few tries find it. */
     private int someConceptToSplit() {
-        int concept = about(house.many(0));
+        int concept = about(plain.many(0));
         for (int i = 0; i < 4; i++) {
-            if (concept >= 0 && concept < house.many(0) && house.ofConcept(concept, 1) < 2) {
-                concept = about(house.many(0));
+            if (concept >= 0 && concept < plain.many(0) && plain.ofConcept(concept, 1) < 2) {
+                concept = about(plain.many(0));
             }
         }
         return concept;
@@ -228,7 +242,7 @@ public final class RunsTest {
         int set = about(1 << 24);
         if (next(8) != 0) {
             for (int term = 0; term < 24; term++) {
-                if (term >= house.many(2) || house.ofTerm(term, 0) != concept) {
+                if (term >= plain.many(2) || plain.ofTerm(term, 0) != concept) {
                     set &= ~(1 << term);
                 }
             }

@@ -3,7 +3,7 @@ public final class WouldBeTest {
     private static final Class<?> INDEX = Houses.INDEX;
     private static final Class<?> ARGUMENT = Houses.ARGUMENT;
     private static final int NONE = Houses.NONE;
-    private static final int[] OUTSIDE = {-1, Integer.MIN_VALUE, Integer.MAX_VALUE};
+    private static final int[] OUTSIDE = Houses.OUTSIDE;
 
     public static void main(String[] args) {
         reopenedBy();
