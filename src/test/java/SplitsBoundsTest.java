@@ -140,6 +140,7 @@ public final class SplitsBoundsTest {
         joinSame();
         joinCannot();
         joinPreferred();
+        joinPreferredInEachLanguage();
         joinEmpty();
         joinFull();
     }
@@ -207,6 +208,31 @@ public final class SplitsBoundsTest {
         Due.is("so that the greater is alone", house.ofTerm(alone, 3), 2);
         Due.is("one of a third concept", house.ofTerm(other, 3), 2);
         Due.is("the one that is told", house.ofConcept(0, 2), first);
+    }
+
+    // "of two TERMS that are PREFERRED in one LANGUAGE then ..": in each LANGUAGE, alone and all at once
+    private static void joinPreferredInEachLanguage() {
+        for (int set = 1; set < 8; set++) {
+            GlossaryCrown house = Houses.of(0, 0);
+            for (int language = 0; language < 3; language++) {
+                Houses.preferred(house, 0, language, 0);
+                if ((set >> language & 1) != 0) {
+                    Houses.preferred(house, 1, language, 1);
+                } else {
+                    Houses.admitted(house, 1, language, 1);
+                }
+            }
+            Due.is("PREFERRED ahead of it", house.many(5), 3 + Integer.bitCount(set));
+            Due.is("terms then", house.join(1, 0), 6);
+            for (int language = 0; language < 3; language++) {
+                String where = "languages " + set + ", language " + language;
+                Due.is(where + ", the smaller", house.ofTerm(2 * language, 3), 2);
+                Due.is(where + ", the greater", house.ofTerm(2 * language + 1, 3), 1);
+                Due.is(where + ", told", house.ofConcept(0, 2 + language), 2 * language);
+                Due.is(where + ", told of the emptied", house.ofConcept(1, 2 + language), -1);
+            }
+            Due.is("PREFERRED then", house.many(5), 3);
+        }
     }
 
     // "Returns how many TERMS the one with the smaller number has then.": none, and with one without any
